@@ -515,7 +515,6 @@ public final class QuireShop {
 
         void begin(int newPace, int today) {
             Arrays.fill(slips, 0);
-            Arrays.fill(errors, 0);
             Arrays.fill(source, NONE);
             pace = newPace;
             had = 0;

@@ -431,6 +431,13 @@ public final class PromiseTests {
         shop.quire(1, 0);
         shop.days(1);
         held("1 is idle since day 1, 0 since day 3", shop, NONE, 2);
+
+        shop = shop(2, 0);
+        scribes(shop, 1);
+        shop.days(5);
+        scribes(shop, 1, 1);
+        shop.days(1);
+        held("who waits in vain does not keep the next one from taking", shop, NONE, 0, NONE);
     }
 
     private static void promise9Choice() {
@@ -490,11 +497,21 @@ public final class PromiseTests {
         due("finish(1)", 9999, shop.finish(1));
         due("finish(1) beyond 9999", NONE, shop.finish(1));
         due("the day stays", 9999, shop.count(3));
+
+        shop = new QuireShop();
+        for (int i = 0; i < 101; i++) {
+            shop.days(98);
+        }
+        due("without scribes, up to 9999", 9898, shop.finish(101));
+        due("without scribes, beyond 9999", NONE, shop.finish(102));
     }
 
     private static void promise11Bound() {
         QuireShop shop = shop(2, 0);
         due("bound without scribes", NONE, shop.bound());
+        QuireShop bare = shop(1);
+        scribes(bare, 1);
+        due("bound without quires", NONE, bare.bound());
         scribes(shop, 3);
         due("bound: no quire of piece 1", NONE, shop.bound());
         shop.quire(1, 0);

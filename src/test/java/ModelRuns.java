@@ -4,14 +4,15 @@ import java.util.List;
 import java.util.NoSuchElementException;
 
 /**
- * Made-up runs of 512 calls, each answer compared with a second model of the document: it goes day by
- * day, keeps pages as records and sorts where the class searches, so that the two share no code.
+ * Made-up runs of 512 calls (what comes behind them is free), each answer compared with a second model of the
+ * document: it goes day by day, keeps pages as records and sorts where the class searches, so that the two share
+ * no code.
  */
 public final class ModelRuns {
     private static final int NONE = -1;
     private static final int OUT_OF_BOUNDS = -1001;
     private static final int NO_ELEMENT = -1002;
-    private static final int RUNS = 3000;
+    private static final int RUNS = 6000;
     private static final int CALLS = 512;
     private static final int[] ODD = {Integer.MIN_VALUE, Integer.MIN_VALUE + 1, -65536, -21, -10, -9, -8, -3, -2,
         -1, 8, 9, 10, 20, 21, 99, 100, 999, 1000, 65535, 65536, Integer.MAX_VALUE};
@@ -440,33 +441,31 @@ public final class ModelRuns {
         int a = pick(9);
         int b = pick(9);
         int c = pick(5);
-        due(run, call, "page(" + a + ", " + b + ", " + c + ")", x.page(a, b, c), m.page(a, b, c));
-        due(run, call, "parent(" + a + ", " + b + ")", x.parent(a, b), m.parent(a, b));
-        due(run, call, "met(" + a + ", " + b + ")", x.met(a, b), m.met(a, b));
-        due(run, call, "changes(" + a + ")", x.changes(a), m.changes(a));
-        due(run, call, "look(" + a + ", " + c + ")", realLook(x, a, c), m.look(a, c));
-        due(run, call, "count(" + c + ")", x.count(c), m.count(c));
-        due(run, call, "bound()", x.bound(), m.bound());
-    }
-
-    /** All that can be asked, once a run. */
-    private static void askAll(int run, QuireShop x, Model m) {
-        for (int a = -1; a < 21; a++) {
-            for (int c = -1; c < 6; c++) {
-                due(run, CALLS, "stock(" + a + ", " + c + ")", x.stock(a, c), m.stock(a, c));
-            }
-        }
-        for (int a = -1; a < 9; a++) {
-            due(run, CALLS, "changes(" + a + ")", x.changes(a), m.changes(a));
-            due(run, CALLS, "count(" + a + ")", x.count(a), m.count(a));
-            for (int b = -1; b < 9; b++) {
-                due(run, CALLS, "parent(" + a + ", " + b + ")", x.parent(a, b), m.parent(a, b));
-                due(run, CALLS, "met(" + a + ", " + b + ")", x.met(a, b), m.met(a, b));
-                due(run, CALLS, "look(" + a + ", " + b + ")", realLook(x, a, b), m.look(a, b));
-                for (int c = -1; c < 5; c++) {
-                    due(run, CALLS, "page(" + a + ", " + b + ", " + c + ")", x.page(a, b, c), m.page(a, b, c));
-                }
-            }
+        switch (next(8)) {
+            case 0:
+                due(run, call, "page(" + a + ", " + b + ", " + c + ")", x.page(a, b, c), m.page(a, b, c));
+                return;
+            case 1:
+                due(run, call, "parent(" + a + ", " + b + ")", x.parent(a, b), m.parent(a, b));
+                return;
+            case 2:
+                due(run, call, "met(" + a + ", " + b + ")", x.met(a, b), m.met(a, b));
+                return;
+            case 3:
+                due(run, call, "changes(" + a + ")", x.changes(a), m.changes(a));
+                return;
+            case 4:
+                due(run, call, "look(" + a + ", " + c + ")", realLook(x, a, c), m.look(a, c));
+                return;
+            case 5:
+                a = pick(21);
+                due(run, call, "stock(" + a + ", " + c + ")", x.stock(a, c), m.stock(a, c));
+                return;
+            case 6:
+                due(run, call, "count(" + c + ")", x.count(c), m.count(c));
+                return;
+            default:
+                due(run, call, "bound()", x.bound(), m.bound());
         }
     }
 
@@ -475,15 +474,16 @@ public final class ModelRuns {
             QuireShop x = new QuireShop();
             Model m = new Model();
             int p = 1 + next(8);
-            due(run, 0, "text(" + p + ")", flag(x.text(p)), m.text(p));
-            int calls = 10 + next(CALLS - 10);
-            for (int call = 1; call < calls; call++) {
-                change(run, call, x, m);
-                if (next(3) == 0) {
+            due(run, 1, "text(" + p + ")", flag(x.text(p)), m.text(p));
+            // Runs that begin with many changes fill the shop; the rest of the calls mostly asks.
+            int filling = 10 + next(CALLS - 110);
+            for (int call = 2; call <= CALLS; call++) {
+                if (next(4) == 0 == call < filling) {
                     ask(run, call, x, m);
+                } else {
+                    change(run, call, x, m);
                 }
             }
-            askAll(run, x, m);
         }
         System.out.println(RUNS + " runs against the model, " + wrong + " wrong");
         if (wrong != 0) {

@@ -270,14 +270,14 @@ public final class BoundaryTests {
         return desk;
     }
 
-    /** As many quires and scribes as there may be. */
+    /** As many quires and scribes as there may be; the last quire is in hand, the last book has ended. */
     private static Desk full() {
         Desk desk = desk(2);
         for (int q = 0; q < 20; q++) {
-            desk.quire(q % 2, q);
+            desk.quire(q < 19 ? 0 : 1, q);
         }
-        scribes(desk, 1, 2, 3, 4, 5, 6, 7, 8);
-        desk.days(2);
+        scribes(desk, 8, 7, 6, 5, 4, 3, 2, 1);
+        desk.days(3);
         return desk;
     }
 
@@ -309,6 +309,8 @@ public final class BoundaryTests {
         due("busy: wear", 3, shownWear(busy()));
         due("full: quires", 20, full().count(1));
         due("full: scribes", 8, full().count(2));
+        due("full: the last quire is in hand", 6, full().stock(19, 3));
+        due("full: the last book has ended", 2, full().look(7, 4));
         due("late: in hand", 0, late().look(0, 2));
     }
 
@@ -689,6 +691,15 @@ public final class BoundaryTests {
         scribes(desk, 1);
         desk.days(1);
         held("a piece with worn quires alone is none to take", desk, NONE, 2);
+
+        desk = desk(2, 0, 0, 0, 1, 1);
+        desk.wear(1);
+        scribes(desk, 9, 9);
+        desk.days(1);
+        desk.rule(1);
+        scribes(desk, 9);
+        desk.days(1);
+        held("two of three are worn: one of piece 0 is fewer than two of piece 1", desk, 0, 1, 2);
     }
 
     /** "of its QUIRES there the one with the fewest USES, of like ones the least number". */
@@ -762,10 +773,12 @@ public final class BoundaryTests {
         desk.days(5);
         due("it ends today and lacks one besides", 10, desk.bound());
         desk = desk(2, 0);
-        scribes(desk, 1);
+        scribes(desk, 3);
         desk.days(7);
         desk.quire(1, 0);
-        due("idle now, not since it ended", 8, desk.bound());
+        desk.quire(1, 0);
+        desk.quire(1, 0);
+        due("3 from now on, not from its end on; the piece's 3 by 3 are less", 10, desk.bound());
     }
 
     /** "for each SCRIBE that lacks something": who has ended counts no more. */
